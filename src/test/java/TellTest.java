@@ -113,7 +113,8 @@ public final class TellTest {
     /** Sums and swings of pairs, against the machine's own. */
     private static void checkAllSums() {
         float[] singles = {0f, 1f, 1.1754942e-38f, Float.MIN_VALUE, Float.MIN_NORMAL, Float.MAX_VALUE, 16777215f,
-            16777217f, 0.1f, 1.0000001f, 1.9999999f, 5.9604645e-8f, 2.9802322e-8f, 1.01412048e31f, 2.02824096e31f, 3e38f};
+            16777217f, 0.1f, 1.0000001f, 1.9999999f, 5.9604645e-8f, 2.9802322e-8f, 1.01412048e31f, 2.02824096e31f, 3e38f,
+            2 * Float.MIN_NORMAL, 3 * Float.MIN_NORMAL, 4 * Float.MIN_NORMAL};
         for (float a : singles) {
             for (float b : singles) {
                 dueOfPair(2, Check.bits(a), Check.bits(-b), Check.bits(a + b), Check.bits(Math.abs(a + b)));
@@ -123,7 +124,7 @@ public final class TellTest {
         double[] doubles = {0, 1, Double.MIN_VALUE, Double.MIN_NORMAL, Double.MAX_VALUE, 9007199254740991.0,
             9007199254740992.0, 9007199254740994.0, 0.1, 1.0000000000000002, 1.9999999999999998, 1.1102230246251565e-16,
             1.1102230246251568e-16, 5.551115123125783e-17, 9.9792015476736e291, 1.99584030953472e292, 1e308,
-            2.225073858507201e-308};
+            2.225073858507201e-308, 2 * Double.MIN_NORMAL, 3 * Double.MIN_NORMAL, 4 * Double.MIN_NORMAL};
         for (double a : doubles) {
             for (double b : doubles) {
                 dueOfPair(3, Check.bits(a), Check.bits(-b), Check.bits(a + b), Check.bits(Math.abs(a + b)));
