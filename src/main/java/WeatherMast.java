@@ -38,7 +38,7 @@ public final class WeatherMast {
         if (!isSort(sort)) {
             throw new IllegalArgumentException("no such sort");
         }
-        if (mounted >= MOST_INSTRUMENTS) {
+        if (mounted >= instruments.length) {
             throw new UnsupportedOperationException("there are eight instruments");
         }
         int number = mounted;
@@ -154,9 +154,8 @@ public final class WeatherMast {
         }
         boolean found = false;
         long greatest = 0;
-        for (int i = 0; i < mounted; i++) {
-            Instrument one = instruments[i];
-            if (one.sort == sort && one.hasRead()) {
+        for (Instrument one : instruments) {
+            if (one != null && one.sort == sort && one.hasRead()) {
                 greatest = found ? one.numbers.greater(greatest, one.swing) : one.swing;
                 found = true;
             }
@@ -191,10 +190,11 @@ public final class WeatherMast {
     }
 
     private Instrument instrumentAt(int number) {
-        if (number < 0 || number >= mounted) {
+        Instrument found = number >= 0 && number < instruments.length ? instruments[number] : null;
+        if (found == null) {
             throw new IndexOutOfBoundsException("no such instrument");
         }
-        return instruments[number];
+        return found;
     }
 
     private static boolean isSort(int sort) {
@@ -249,15 +249,17 @@ public final class WeatherMast {
         }
 
         boolean chainIsFull() {
-            return steps >= MOST_STEPS;
+            return steps >= kinds.length;
         }
 
-        /** To be called only while the chain is not full. */
+        /** How many steps there are then; a full chain stays as it is. */
         int addStep(int kind, long constant, Instrument leader) {
-            kinds[steps] = kind;
-            constants[steps] = constant;
-            leaders[steps] = leader;
-            steps++;
+            if (!chainIsFull()) {
+                kinds[steps] = kind;
+                constants[steps] = constant;
+                leaders[steps] = leader;
+                steps++;
+            }
             return steps;
         }
 
@@ -538,9 +540,9 @@ public final class WeatherMast {
             return v < 0 ? amount | signMask : amount;
         }
 
-        /** How many of the last bits of an amount stand behind the point; 0 or less where it is whole. */
+        /** How many of the last bits of an amount from 1 on stand behind the point; 0 or less where it is whole. */
         private int bitsBehindPoint(long m) {
-            return fractionBits + bias - exponentOf(m);
+            return fractionBits + bias - (int) (m >>> fractionBits);
         }
 
         /** The greatest whole amount that is not above m. */
@@ -582,7 +584,7 @@ public final class WeatherMast {
 
         /** The amounts too small for a hidden bit have the exponent of the least ones that have it. */
         private int exponentOf(long m) {
-            return (int) Math.max(1, m >>> fractionBits);
+            return m < hidden ? 1 : (int) (m >>> fractionBits);
         }
 
         private long significandOf(long m) {
