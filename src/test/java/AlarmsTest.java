@@ -4,8 +4,11 @@ public final class AlarmsTest {
 
     public static void main(String[] args) {
         WeatherMast mast = Check.ofEachSort();
-        CHECK.refused("no instrument", Check.INDEX, () -> mast.alarms(4));
-        CHECK.refused("no instrument", Check.INDEX, () -> mast.alarms(-1));
+        CHECK.sentence("IndexOutOfBoundsException when there is no such instrument.");
+        for (int at : new int[] {-1, 4, 8, Integer.MIN_VALUE, Integer.MAX_VALUE}) {
+            CHECK.refused("alarms of instrument " + at, Check.INDEX, () -> mast.alarms(at));
+        }
+        CHECK.sentence("How many alarms an instrument gave.");
         checkFirstLimits(mast);
         checkZeros();
         checkChain();

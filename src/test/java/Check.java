@@ -15,6 +15,7 @@ final class Check {
 
     private int done;
     private int wrong;
+    private String sentence = "";
 
     static long bits(float v) {
         return Float.floatToRawIntBits(v);
@@ -33,6 +34,11 @@ final class Check {
         return mast;
     }
 
+    /** The document's words that the checks from here on are for; DocumentTest looks for them there. */
+    void sentence(String words) {
+        sentence = "\"" + words + "\": ";
+    }
+
     void due(String call, boolean want, boolean got) {
         due(call, want ? 1 : 0, got ? 1 : 0);
     }
@@ -41,7 +47,7 @@ final class Check {
         done++;
         if (want != got) {
             wrong++;
-            System.out.println(call + " answered " + got + ", due is " + want);
+            System.out.println(sentence + call + " answered " + got + ", due is " + want);
         }
     }
 
@@ -55,7 +61,7 @@ final class Check {
         done++;
         if (got != null) {
             wrong++;
-            System.out.println(call + " " + got + ", due is " + want.getSimpleName());
+            System.out.println(sentence + call + " " + got + ", due is " + want.getSimpleName());
         }
     }
 

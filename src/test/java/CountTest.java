@@ -4,9 +4,11 @@ public final class CountTest {
 
     public static void main(String[] args) {
         WeatherMast mast = new WeatherMast();
+        CHECK.sentence("-1 for another what.");
         for (int what : new int[] {-1, 4, Integer.MIN_VALUE, Integer.MAX_VALUE}) {
             CHECK.due("another what", -1, mast.count(what));
         }
+        CHECK.sentence("0 how many instruments, 1 readings ever, 2 alarms ever, 3 steps that were done ever;");
         due(mast, 0, 0, 0, 0);
         mast.mount(0);
         mast.mount(3);
@@ -29,10 +31,12 @@ public final class CountTest {
         mast.forget(0);
         mast.forget(1);
         due(mast, 2, 5, 2, 6);
+        mast.read(0, 5);
+        due(mast, 2, 6, 3, 8);
         CHECK.refused("no number", Check.ARGUMENT, () -> mast.read(1, -1));
         CHECK.refused("no instrument", Check.INDEX, () -> mast.read(2, 0));
         CHECK.refused("no sort", Check.ARGUMENT, () -> mast.mount(9));
-        due(mast, 2, 5, 2, 6);
+        due(mast, 2, 6, 3, 8);
         CHECK.due("another what", -1, mast.count(4));
         CHECK.end();
     }

@@ -13,15 +13,23 @@ public final class FollowTest {
 
     private static void checkRefusals() {
         WeatherMast mast = Check.ofEachSort();
-        CHECK.refused("no instrument", Check.INDEX, () -> mast.follow(4, 1, 0));
-        CHECK.refused("no other", Check.INDEX, () -> mast.follow(0, 1, 4));
-        CHECK.refused("no other, no step", Check.INDEX, () -> mast.follow(0, 9, -1));
-        CHECK.refused("no instrument, no step", Check.INDEX, () -> mast.follow(-1, 9, 0));
+        for (int at : new int[] {-1, 4, 8, Integer.MIN_VALUE, Integer.MAX_VALUE}) {
+            CHECK.sentence("IndexOutOfBoundsException when there is no such instrument,");
+            CHECK.refused("instrument " + at, Check.INDEX, () -> mast.follow(at, 1, 0));
+            CHECK.sentence("or no such other;");
+            CHECK.refused("other " + at, Check.INDEX, () -> mast.follow(0, 1, at));
+        }
         for (int sort = 0; sort < 4; sort++) {
             int asked = sort;
-            for (int step : new int[] {-1, 0, 3, 4, 5, 6, 8, Integer.MIN_VALUE, Integer.MAX_VALUE}) {
+            CHECK.sentence("then IllegalArgumentException when there is no such step of its sort,");
+            for (int step : new int[] {-1, 8, Integer.MIN_VALUE, Integer.MAX_VALUE}) {
                 CHECK.refused("step " + step, Check.ARGUMENT, () -> mast.follow(asked, step, asked));
             }
+            CHECK.sentence("it takes no K,");
+            for (int step : new int[] {0, 3, 4, 5, 6}) {
+                CHECK.refused("step " + step, Check.ARGUMENT, () -> mast.follow(asked, step, asked));
+            }
+            CHECK.sentence("or the other one is of another sort;");
             for (int other = 0; other < 4; other++) {
                 int leader = other;
                 if (other != sort) {
@@ -29,10 +37,12 @@ public final class FollowTest {
                 }
             }
         }
+        CHECK.sentence("when there is no such step of its sort,");
         CHECK.refused("like of counts", Check.ARGUMENT, () -> mast.follow(0, 7, 0));
         CHECK.refused("like of tallies", Check.ARGUMENT, () -> mast.follow(1, 7, 1));
         CHECK.due("like of singles", 1, mast.follow(2, 7, 2));
         CHECK.due("like of doubles", 1, mast.follow(3, 7, 3));
+        CHECK.sentence("then IllegalStateException when it has six.");
         CHECK.due("a told step ahead", 1, mast.step(0, 0, 0));
         for (int i = 2; i <= 6; i++) {
             CHECK.due("follow " + i, i, mast.follow(0, 1 + i % 2, 0));
@@ -48,6 +58,7 @@ public final class FollowTest {
         WeatherMast mast = new WeatherMast();
         mast.mount(0);
         mast.mount(0);
+        CHECK.sentence("One more step whose K is the latest reading of an instrument other: how many steps it has.");
         CHECK.due("follow", 1, mast.follow(0, 1, 1));
         CHECK.due("0 while it has none", 0, mast.read(0, -7));
         CHECK.due("above 0", 7, mast.read(0, 7));

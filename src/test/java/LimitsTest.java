@@ -12,8 +12,11 @@ public final class LimitsTest {
 
     private static void checkRefusals() {
         WeatherMast mast = Check.ofEachSort();
-        CHECK.refused("no instrument", Check.INDEX, () -> mast.limits(4, -1, -1) ? 1 : 0);
-        CHECK.refused("no instrument", Check.INDEX, () -> mast.limits(-1, 0, 0) ? 1 : 0);
+        CHECK.sentence("IndexOutOfBoundsException when there is no such instrument;");
+        for (int at : new int[] {-1, 4, 8, Integer.MIN_VALUE, Integer.MAX_VALUE}) {
+            CHECK.refused("limits of instrument " + at, Check.INDEX, () -> mast.limits(at, 0, 0) ? 1 : 0);
+        }
+        CHECK.sentence("then IllegalArgumentException when one of both is no number.");
         for (int sort = 2; sort < 4; sort++) {
             int asked = sort;
             CHECK.refused("low is none", Check.ARGUMENT, () -> mast.limits(asked, -1, 0) ? 1 : 0);
@@ -28,6 +31,7 @@ public final class LimitsTest {
     }
 
     private static void checkAnswers() {
+        CHECK.sentence("whether LOW is not ABOVE HIGH.");
         WeatherMast mast = Check.ofEachSort();
         CHECK.due("counts", true, mast.limits(0, -1, 1));
         CHECK.due("counts alike", true, mast.limits(0, 1, 1));
@@ -49,6 +53,7 @@ public final class LimitsTest {
     }
 
     private static void checkFromNowOn() {
+        CHECK.sentence("An instrument's limits from now on:");
         WeatherMast mast = Check.ofEachSort();
         mast.read(0, 100);
         mast.limits(0, -1, 1);

@@ -2,6 +2,7 @@
 public final class NewMastTest {
     public static void main(String[] args) {
         Check check = new Check();
+        check.sentence("A mast without instruments.");
         WeatherMast mast = new WeatherMast();
         for (int what = 0; what < 4; what++) {
             check.due("count(" + what + ")", 0, mast.count(what));

@@ -4,11 +4,13 @@ public final class ReadTest {
 
     public static void main(String[] args) {
         checkBits();
+        checkChain();
         checkRefusals();
         CHECK.end();
     }
 
     private static void checkBits() {
+        CHECK.sentence("An instrument reads: what comes out of the chain.");
         WeatherMast mast = Check.ofEachSort();
         long[] bits = {0, 1, -1, 0x7fff_ffffL, 0x8000_0000L, 0xffff_ffffL, 1L << 32, Long.MIN_VALUE, Long.MAX_VALUE};
         for (long told : bits) {
@@ -28,12 +30,26 @@ public final class ReadTest {
         CHECK.due("readings", bits.length * 2 + singles.length + doubles.length, mast.count(1));
     }
 
+    private static void checkChain() {
+        WeatherMast mast = Check.ofEachSort();
+        mast.step(0, 0, 0);
+        CHECK.due("a count's amount", 5, mast.read(0, -5));
+        CHECK.due("the least count's amount", Integer.MIN_VALUE, mast.read(0, Integer.MIN_VALUE));
+        mast.step(0, 2, -7);
+        CHECK.due("a step that came later", -7, mast.read(0, -5));
+        mast.step(3, 4, 0);
+        CHECK.due("a double's up", Check.bits(-0.0), mast.read(3, Check.bits(-0.5)));
+    }
+
     private static void checkRefusals() {
         WeatherMast mast = Check.ofEachSort();
         mast.step(2, 0, 0);
         mast.step(3, 0, 0);
-        CHECK.refused("no instrument", Check.INDEX, () -> mast.read(4, -1));
-        CHECK.refused("no instrument", Check.INDEX, () -> mast.read(-1, -1));
+        CHECK.sentence("IndexOutOfBoundsException when there is no such instrument;");
+        for (int at : new int[] {-1, 4, 8, Integer.MIN_VALUE, Integer.MAX_VALUE}) {
+            CHECK.refused("read of instrument " + at, Check.INDEX, () -> mast.read(at, 0));
+        }
+        CHECK.sentence("then IllegalArgumentException when the bits are no number.");
         for (long nan : new long[] {0x7f80_0001L, 0x7fc0_0000L, 0x7fff_ffffL, 0xff80_0001L, 0xffc0_0000L, -1}) {
             CHECK.refused("no single", Check.ARGUMENT, () -> mast.read(2, nan));
         }

@@ -16,8 +16,11 @@ public final class StepTest {
 
     private static void checkRefusals() {
         WeatherMast mast = Check.ofEachSort();
-        CHECK.refused("no instrument first", Check.INDEX, () -> mast.step(4, 9, NAN64));
-        CHECK.refused("no instrument below", Check.INDEX, () -> mast.step(-1, 9, NAN64));
+        CHECK.sentence("IndexOutOfBoundsException when there is no such instrument;");
+        for (int at : new int[] {-1, 4, 8, Integer.MIN_VALUE, Integer.MAX_VALUE}) {
+            CHECK.refused("step of instrument " + at, Check.INDEX, () -> mast.step(at, 0, 0));
+        }
+        CHECK.sentence("then IllegalArgumentException when there is no such step of its sort,");
         for (int sort = 0; sort < 4; sort++) {
             int asked = sort;
             for (int step : new int[] {-1, 8, Integer.MIN_VALUE, Integer.MAX_VALUE}) {
@@ -29,6 +32,7 @@ public final class StepTest {
             CHECK.refused("of counts " + step, Check.ARGUMENT, () -> mast.step(0, asked, 0));
             CHECK.refused("of tallies " + step, Check.ARGUMENT, () -> mast.step(1, asked, 0));
         }
+        CHECK.sentence("or it takes K and K is no number;");
         for (int step : new int[] {1, 2, 7}) {
             for (long nan : new long[] {NAN32, 0x7fff_ffffL, 0xffff_ffffL, -1, 0x3ff0_0000_7fc0_0000L}) {
                 CHECK.refused("K of singles", Check.ARGUMENT, () -> mast.step(2, step, nan));
@@ -46,9 +50,11 @@ public final class StepTest {
         for (int sort = 0; sort < 4; sort++) {
             WeatherMast mast = Check.ofEachSort();
             int asked = sort;
+            CHECK.sentence("One more step behind an instrument's chain,");
             for (int i = 1; i <= 6; i++) {
                 CHECK.due("step " + i, i, mast.step(sort, i % 3, 0));
             }
+            CHECK.sentence("then IllegalStateException when it has six.");
             CHECK.refused("a seventh", Check.STATE, () -> mast.step(asked, 0, 0));
             CHECK.refused("a seventh that is none", Check.ARGUMENT, () -> mast.step(asked, 8, 0));
             if (sort >= 2) {
@@ -58,17 +64,25 @@ public final class StepTest {
             mast.read(sort, 0);
             CHECK.due("steps done", 6, mast.count(3));
         }
+        checkIdleK();
+    }
+
+    private static void checkIdleK() {
+        CHECK.sentence("with K (which does not matter for steps without): how many steps it has.");
         WeatherMast mast = Check.ofEachSort();
         int[] without = {0, 3, 4, 5, 6};
         for (int i = 0; i < without.length; i++) {
             CHECK.due("K does not matter", i + 1, mast.step(2, without[i], -1));
             CHECK.due("K does not matter", i + 1, mast.step(3, without[i], NAN64));
         }
+        CHECK.due("amount, down, up, nearest, sign", Check.bits(1f), mast.read(2, Check.bits(-2.5f)));
+        CHECK.due("amount, down, up, nearest, sign", Check.bits(1.0), mast.read(3, Check.bits(-2.5)));
         CHECK.due("K of a single is its lowest bits", 6, mast.step(2, 1, 0x7ff0_0001_0000_0000L));
         CHECK.due("an infinity is a number", 6, mast.step(3, 1, Check.bits(Double.NEGATIVE_INFINITY)));
     }
 
     private static void checkWhole() {
+        CHECK.sentence("STEPS make a number v another one;");
         due(0, 0, 0, -5, 5);
         due(0, 0, 0, 5, 5);
         due(0, 0, 0, 0, 0);

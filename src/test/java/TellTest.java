@@ -14,11 +14,15 @@ public final class TellTest {
 
     private static void checkRefusals() {
         WeatherMast mast = Check.ofEachSort();
-        CHECK.refused("no instrument", Check.INDEX, () -> mast.tell(4, 9));
-        CHECK.refused("no instrument", Check.INDEX, () -> mast.tell(-1, 0));
+        CHECK.sentence("IndexOutOfBoundsException when there is no such instrument;");
+        for (int at : new int[] {-1, 4, 8, Integer.MIN_VALUE, Integer.MAX_VALUE}) {
+            CHECK.refused("tell of instrument " + at, Check.INDEX, () -> mast.tell(at, 0));
+        }
+        CHECK.sentence("then IllegalArgumentException for another what;");
         for (int what : new int[] {-1, 4, Integer.MIN_VALUE, Integer.MAX_VALUE}) {
             CHECK.refused("another what", Check.ARGUMENT, () -> mast.tell(0, what));
         }
+        CHECK.sentence("then NoSuchElementException when it has read nothing.");
         for (int sort = 0; sort < 4; sort++) {
             for (int what = 0; what < 4; what++) {
                 int told = what;
@@ -27,10 +31,14 @@ public final class TellTest {
             }
         }
         mast.read(0, 1);
+        mast.forget(0);
+        CHECK.refused("forgotten", Check.NONE_SUCH, () -> mast.tell(0, 0));
+        mast.read(0, 1);
         CHECK.refused("another what", Check.ARGUMENT, () -> mast.tell(0, 4));
     }
 
     private static void checkWhole() {
+        CHECK.sentence("Of an instrument: 0 LEAST, 1 GREATEST, 2 SWING of the latest reading, 3 SUM.");
         WeatherMast mast = Check.ofEachSort();
         mast.read(0, -5);
         due(mast, 0, -5, -5, 0, 5);

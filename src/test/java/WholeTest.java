@@ -4,8 +4,11 @@ public final class WholeTest {
 
     public static void main(String[] args) {
         WeatherMast mast = Check.ofEachSort();
-        CHECK.refused("no instrument", Check.INDEX, () -> mast.whole(4));
-        CHECK.refused("no instrument", Check.INDEX, () -> mast.whole(-1));
+        CHECK.sentence("IndexOutOfBoundsException when there is no such instrument;");
+        for (int at : new int[] {-1, 4, 8, Integer.MIN_VALUE, Integer.MAX_VALUE}) {
+            CHECK.refused("whole of instrument " + at, Check.INDEX, () -> mast.whole(at));
+        }
+        CHECK.sentence("then NoSuchElementException when it has read nothing.");
         for (int sort = 0; sort < 4; sort++) {
             int asked = sort;
             CHECK.refused("nothing was read", Check.NONE_SUCH, () -> mast.whole(asked));
@@ -13,6 +16,7 @@ public final class WholeTest {
         checkWhole();
         checkSingles();
         checkDoubles();
+        CHECK.sentence("The latest reading of an instrument as an int:");
         mast.step(3, 0, 0);
         mast.read(3, Check.bits(-7.5));
         CHECK.due("behind the chain", 7, mast.whole(3));
@@ -24,6 +28,7 @@ public final class WholeTest {
     }
 
     private static void checkWhole() {
+        CHECK.sentence("what is beyond is the nearest int.");
         due(0, Integer.MIN_VALUE, Integer.MIN_VALUE);
         due(0, -1, -1);
         due(0, 1L << 32, 0);
@@ -41,6 +46,7 @@ public final class WholeTest {
     }
 
     private static void checkSingles() {
+        CHECK.sentence("cut towards 0, what is beyond is the nearest int.");
         float[] values = {0f, Float.MIN_VALUE, 0.5f, 0.99999994f, 1f, 1.5f, 1.9999999f, 2.5f, 8388607.5f, 8388609f,
             16777215f, 16777218f, 1073741824f, 2147483520f, 2147483648f, 4294967296f, 1e30f, Float.MAX_VALUE,
             Float.POSITIVE_INFINITY};

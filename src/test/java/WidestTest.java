@@ -11,10 +11,12 @@ public final class WidestTest {
     }
 
     private static void checkRefusals() {
+        CHECK.sentence("IllegalArgumentException when there is no such sort;");
         WeatherMast mast = Check.ofEachSort();
         for (int sort : new int[] {-1, 4, Integer.MIN_VALUE, Integer.MAX_VALUE}) {
             CHECK.refused("no sort", Check.ARGUMENT, () -> mast.widest(sort));
         }
+        CHECK.sentence("NoSuchElementException when none of them has read anything.");
         for (int read = 0; read < 4; read++) {
             for (int sort = read; sort < 4; sort++) {
                 int asked = sort;
@@ -29,6 +31,7 @@ public final class WidestTest {
     }
 
     private static void checkCounts() {
+        CHECK.sentence("The greatest SWING of the latest readings of all instruments of a sort.");
         WeatherMast mast = mastOf(0, 0, 0, 1);
         mast.read(0, 5);
         mast.read(0, 8);
@@ -44,6 +47,7 @@ public final class WidestTest {
         CHECK.due("without what is forgotten", 0, mast.widest(0));
         mast.forget(1);
         mast.forget(2);
+        CHECK.sentence("(Of COUNTS and TALLIES the greatest by their sign.)");
         mast.read(0, Integer.MIN_VALUE);
         mast.read(0, 0);
         CHECK.due("below 0 alone", Integer.MIN_VALUE, mast.widest(0));
@@ -65,6 +69,7 @@ public final class WidestTest {
     }
 
     private static void checkDoubles() {
+        CHECK.sentence("The greatest SWING of the latest readings of all instruments of a sort.");
         WeatherMast mast = mastOf(3, 2, 3, 2);
         mast.read(0, Check.bits(1.0));
         mast.read(0, Check.bits(-1.5));
