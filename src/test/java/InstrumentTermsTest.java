@@ -117,7 +117,9 @@ public final class InstrumentTermsTest {
             mast.follow(0, 1, 1);
             CHECK.due("at least 0", 0, mast.read(0, LEAST[sort]));
             CHECK.due("the other one has still read nothing", 0, mast.forget(1));
-            mast.read(1, GREATEST[sort]);
+            for (int n = 0; n < 20; n++) {
+                mast.read(1, GREATEST[sort]);
+            }
             CHECK.due("at least the greatest", GREATEST[sort], mast.read(0, LEAST[sort]));
             mast.forget(1);
             CHECK.due("at least 0 when it forgot", 0, mast.read(0, LEAST[sort]));

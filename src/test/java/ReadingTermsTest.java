@@ -90,11 +90,23 @@ public final class ReadingTermsTest {
         CHECK.due("through 0", 13, toldOf(1, 2, -5, 8));
         CHECK.due("singles", Check.bits(3.5f), toldOf(2, 2, Check.bits(1f), Check.bits(-2.5f)));
         CHECK.due("doubles", Check.bits(3.5), toldOf(3, 2, Check.bits(-2.5), Check.bits(1.0)));
-        long up = Check.bits(Double.POSITIVE_INFINITY);
-        CHECK.due("from one infinity to the other", up, toldOf(3, 2, up, Check.bits(Double.NEGATIVE_INFINITY)));
-        CHECK.due("from an infinity", up, toldOf(3, 2, Check.bits(Double.NEGATIVE_INFINITY), Check.bits(1.0)));
-        CHECK.due("to an infinity", Check.bits(Float.POSITIVE_INFINITY),
-                toldOf(2, 2, 0, Check.bits(Float.NEGATIVE_INFINITY)));
+        checkSwingOfInfinities(2, Check.bits(Float.POSITIVE_INFINITY), Check.bits(Float.NEGATIVE_INFINITY),
+                new long[] {0, Check.bits(-0f), Check.bits(1f), Check.bits(-1f), Check.bits(Float.MAX_VALUE),
+                    Check.bits(-Float.MAX_VALUE)});
+        checkSwingOfInfinities(3, Check.bits(Double.POSITIVE_INFINITY), Check.bits(Double.NEGATIVE_INFINITY),
+                new long[] {0, Check.bits(-0.0), Check.bits(1.0), Check.bits(-1.0), Check.bits(Double.MAX_VALUE),
+                    Check.bits(-Double.MAX_VALUE)});
+    }
+
+    private static void checkSwingOfInfinities(int sort, long up, long down, long[] finite) {
+        CHECK.due("from the upper infinity to the lower", up, toldOf(sort, 2, up, down));
+        CHECK.due("from the lower infinity to the upper", up, toldOf(sort, 2, down, up));
+        for (long v : finite) {
+            CHECK.due("from the upper infinity to " + v, up, toldOf(sort, 2, up, v));
+            CHECK.due("from the lower infinity to " + v, up, toldOf(sort, 2, down, v));
+            CHECK.due("to the upper infinity from " + v, up, toldOf(sort, 2, v, up));
+            CHECK.due("to the lower infinity from " + v, up, toldOf(sort, 2, v, down));
+        }
     }
 
     private static void checkFirstSwing() {
