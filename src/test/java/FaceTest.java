@@ -1,12 +1,20 @@
+import java.io.IOException;
 import java.lang.reflect.Constructor;
 import java.lang.reflect.Field;
 import java.lang.reflect.Method;
 import java.lang.reflect.Modifier;
+import java.nio.file.Files;
+import java.nio.file.Path;
 import java.util.Arrays;
 import java.util.TreeSet;
+import java.util.regex.Matcher;
+import java.util.regex.Pattern;
 
 /** The public face: just the document's constructor and methods, with its throws clauses. */
 public final class FaceTest {
+    private static final Path DOCUMENT = Path.of("../shared/DOC.md");
+    private static final Pattern DECLARED =
+            Pattern.compile("(?m)^    public (\\w+ \\w+)\\(([^)]*)\\)(?: throws ([^;]*))?;$");
     private static final String[] FACE = {
         "int mount(int) IllegalArgumentException UnsupportedOperationException",
         "int step(int,int,long) IndexOutOfBoundsException IllegalArgumentException IllegalStateException",
@@ -22,7 +30,7 @@ public final class FaceTest {
         "int count(int)",
     };
 
-    public static void main(String[] args) {
+    public static void main(String[] args) throws IOException {
         Check check = new Check();
         Class<?> face = WeatherMast.class;
         check.due("the class is public and final", Modifier.PUBLIC | Modifier.FINAL, face.getModifiers());
@@ -42,6 +50,10 @@ public final class FaceTest {
                 check.due(method + " has a public name", false, publicNames.contains(method.getName()));
             }
         }
+        if (Files.isReadable(DOCUMENT)) {
+            TreeSet<String> declared = declared(Files.readString(DOCUMENT));
+            check.due("methods of the document " + declared + " are " + due, true, due.equals(declared));
+        }
         Constructor<?>[] constructors = face.getDeclaredConstructors();
         check.due("constructors", 1, constructors.length);
         check.due("the constructor is public", Modifier.PUBLIC, constructors[0].getModifiers());
@@ -54,6 +66,18 @@ public final class FaceTest {
             check.due(inside + " is public", false, Modifier.isPublic(inside.getModifiers()));
         }
         check.end();
+    }
+
+    /** The document's methods, in the form that FACE has. */
+    private static TreeSet<String> declared(String document) {
+        TreeSet<String> found = new TreeSet<>();
+        Matcher method = DECLARED.matcher(document);
+        while (method.find()) {
+            String types = method.group(2).replaceAll(" \\w+(,|$)", "$1").replace(" ", "");
+            String thrown = method.group(3) == null ? "" : " " + method.group(3).replace(",", "");
+            found.add(method.group(1) + "(" + types + ")" + thrown);
+        }
+        return found;
     }
 
     private static String told(Method method) {
